@@ -28,10 +28,11 @@ public final class MarshDrains {
     public int addField(int floor, int worth) throws IllegalArgumentException, IllegalStateException {
         requireWithin(floor, 0, MOST_FLOOR);
         requireWithin(worth, 0, MOST_WORTH);
-        if (now.fieldCount >= MOST_FIELDS) {
+        int field = now.putField(floor, worth);
+        if (field == NONE) {
             throw new IllegalStateException("there are ten fields");
         }
-        return now.putField(floor, worth);
+        return field;
     }
 
     public int addDitch(int one, int other, int carries)
@@ -351,10 +352,11 @@ public final class MarshDrains {
             throw new IllegalArgumentException("a drain leads from a field to another one");
         }
         requireWithin(carries, 1, MOST_CARRIED);
-        if (now.drainCount >= MOST_DRAINS) {
+        int drain = now.putDrain(from, to, carries, pump);
+        if (drain == NONE) {
             throw new IllegalStateException("there are sixteen drains");
         }
-        return now.putDrain(from, to, carries, pump);
+        return drain;
     }
 
     private void requireField(int field) {
@@ -402,9 +404,10 @@ public final class MarshDrains {
             return drain >= 0 && drain < drainCount;
         }
 
+        /** Answers the field's number, or NONE if there is no room for it. */
         int putField(int floor, int worth) {
             int field = fieldCount;
-            if (field < 0 || field >= MOST_FIELDS) {
+            if (field >= MOST_FIELDS) {
                 return NONE;
             }
             floors[field] = floor;
@@ -413,9 +416,10 @@ public final class MarshDrains {
             return field;
         }
 
+        /** Answers the drain's number, or NONE if there is no room for it. */
         int putDrain(int from, int to, int most, boolean pump) {
             int drain = drainCount;
-            if (drain < 0 || drain >= MOST_DRAINS) {
+            if (drain >= MOST_DRAINS) {
                 return NONE;
             }
             froms[drain] = from;

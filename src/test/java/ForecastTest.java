@@ -19,6 +19,7 @@ public final class ForecastTest {
         promise36MeanWater();
         promise37DigestOfNothing();
         promise37Digest();
+        promise37DigestAsks12And10();
         nothingIsChanged();
         c.end();
     }
@@ -315,6 +316,32 @@ public final class ForecastTest {
         c.due("37 digest()", m.digest(), digestByAnswers(m));
         m.turn(1);
         c.due("37 digest() with pump 1", m.digest(), digestByAnswers(m));
+    }
+
+    /** States in which lossIn(12) is not lossIn(11), or lossIn(13), and bestToFlood(10) not that of 9, or of 11. */
+    private static void promise37DigestAsks12And10() {
+        MarshDrains late = lateByOneField();
+        late.pass(20);
+        c.due("37 lossIn(13), thirteen hours left", late.lossIn(13), 50);
+        c.due("37 digest(), thirteen hours left", late.digest(), digestByAnswers(late));
+        late.pass(1);
+        c.due("37 lossIn(11), twelve hours left", late.lossIn(11), 0);
+        c.due("37 digest(), twelve hours left", late.digest(), digestByAnswers(late));
+        MarshDrains nine = new MarshDrains();
+        nine.addField(0, 20);
+        nine.addField(0, 10);
+        nine.addPump(0, -1, 1);
+        c.due("37 bestToFlood(9)", nine.bestToFlood(9), 0);
+        c.due("37 bestToFlood(10), too much for the pump", nine.bestToFlood(10), 1);
+        c.due("37 digest() with a pump of 1", nine.digest(), digestByAnswers(nine));
+        MarshDrains ten = new MarshDrains();
+        ten.addField(0, 20);
+        ten.addField(0, 10);
+        ten.addPump(0, -1, 2);
+        ten.flood(0, 5);
+        c.due("37 bestToFlood(10)", ten.bestToFlood(10), 0);
+        c.due("37 bestToFlood(11), too much for the pump", ten.bestToFlood(11), 1);
+        c.due("37 digest() with a pump of 2", ten.digest(), digestByAnswers(ten));
     }
 
     private static long digestByAnswers(MarshDrains m) {
