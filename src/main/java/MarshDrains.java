@@ -247,8 +247,10 @@ public final class MarshDrains {
     }
 
     public int bestToTurn() {
+        trial.becomeLike(now);
+        trial.passHours(HOURS_WEIGHED);
+        int leastLoss = trial.lostWorth();
         int best = NONE;
-        int leastLoss = lossIn(HOURS_WEIGHED);
         for (int drain = 0; drain < now.drainCount; drain++) {
             trial.becomeLike(now);
             trial.turnDrain(drain);
