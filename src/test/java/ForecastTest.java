@@ -31,39 +31,6 @@ public final class ForecastTest {
         return m;
     }
 
-    /**
-     * Field 0 rises by one an hour from field 1, and gives field 2, which lies 20 higher, its first water with the
-     * 22nd hour and one more with each second one: 4 with the 28th, so that field 2 is ruined with the 33rd.
-     */
-    private static MarshDrains lateByOneField() {
-        MarshDrains m = new MarshDrains();
-        m.addField(0, 0);
-        m.addField(0, 0);
-        m.addField(20, 50);
-        m.addPump(1, 0, 1);
-        m.addDitch(0, 2, 9);
-        m.flood(1, 50);
-        return m;
-    }
-
-    /** The same, but that five fields rise together, and so later than the hundredth hour. */
-    private static MarshDrains lateByFiveFields() {
-        MarshDrains m = new MarshDrains();
-        for (int field = 0; field < 6; field++) {
-            m.addField(0, 0);
-        }
-        m.addField(20, 50);
-        for (int field = 0; field < 4; field++) {
-            m.addDitch(field, field + 1, 9);
-        }
-        m.addDitch(0, 6, 9);
-        m.addPump(5, 0, 1);
-        for (int time = 0; time < 4; time++) {
-            m.flood(5, 50);
-        }
-        return m;
-    }
-
     private static void promise30HoursUntilRuined() {
         MarshDrains m = twoFields();
         c.noSuch("30 hoursUntilRuined(0) without fields", () -> new MarshDrains().hoursUntilRuined(0));
@@ -82,18 +49,18 @@ public final class ForecastTest {
         c.due("30 hoursUntilRuined(0), ruined and dry", m.hoursUntilRuined(0), 0);
         m.setRain(1);
         c.due("30 hoursUntilRuined(1), wet with the fourth rain", m.hoursUntilRuined(1), 9);
-        c.due("30 hoursUntilRuined(2), late", lateByOneField().hoursUntilRuined(2), 33);
+        c.due("30 hoursUntilRuined(2), late", Marshes.lateByOneField().hoursUntilRuined(2), 33);
     }
 
     private static void promise30AtMostHundred() {
-        MarshDrains passed = lateByFiveFields();
+        MarshDrains passed = Marshes.lateByFiveFields();
         int ruinedAt = 0;
         while (ruinedAt < 200 && !passed.isRuined(6)) {
             passed.pass(1);
             ruinedAt++;
         }
         c.due("30 the example is later than 101", ruinedAt > 101 && ruinedAt < 200, true);
-        MarshDrains asked = lateByFiveFields();
+        MarshDrains asked = Marshes.lateByFiveFields();
         for (int hour = 0; hour <= ruinedAt; hour++) {
             int left = ruinedAt - hour;
             c.due("30 hoursUntilRuined(6), due " + left, asked.hoursUntilRuined(6), left <= 100 ? left : -1);
@@ -118,7 +85,7 @@ public final class ForecastTest {
         c.due("31 lossIn(9) with rain", m.lossIn(9), 30);
         c.due("31 loss(), nothing is changed", m.loss(), 20);
         c.due("31 lossIn(48) without fields", new MarshDrains().lossIn(48), 0);
-        MarshDrains slow = lateByFiveFields();
+        MarshDrains slow = Marshes.lateByFiveFields();
         while (slow.hoursUntilRuined(6) != 49) {
             slow.pass(1);
         }
@@ -265,7 +232,7 @@ public final class ForecastTest {
     }
 
     private static void promises33To35WeighOneDay() {
-        MarshDrains m = lateByOneField();
+        MarshDrains m = Marshes.lateByOneField();
         m.pass(7);
         c.due("34 bestToFlood(1), 26 hours left, 25 then", m.bestToFlood(1), 0);
         m.pass(1);
@@ -320,7 +287,7 @@ public final class ForecastTest {
 
     /** States in which lossIn(12) is not lossIn(11), or lossIn(13), and bestToFlood(10) not that of 9, or of 11. */
     private static void promise37DigestAsks12And10() {
-        MarshDrains late = lateByOneField();
+        MarshDrains late = Marshes.lateByOneField();
         late.pass(20);
         c.due("37 lossIn(13), thirteen hours left", late.lossIn(13), 50);
         c.due("37 digest(), thirteen hours left", late.digest(), digestByAnswers(late));
@@ -368,8 +335,8 @@ public final class ForecastTest {
     }
 
     private static void nothingIsChanged() {
-        MarshDrains asked = lateByFiveFields();
-        MarshDrains left = lateByFiveFields();
+        MarshDrains asked = Marshes.lateByFiveFields();
+        MarshDrains left = Marshes.lateByFiveFields();
         for (int hour = 0; hour < 30; hour++) {
             asked.hoursUntilRuined(hour % 7);
             asked.lossIn(48);
